@@ -30,6 +30,7 @@ public final class RefusedTest {
         rainLossLimit();
         fans();
         runs();
+        tooWarmToRun();
         questions();
         severalWrong();
         manyOneAfterTheOther();
@@ -70,6 +71,9 @@ public final class RefusedTest {
             }
         }
         DUE.yes("the fan blows", x.air() > 0 && x.air() < 1000);
+        for (int what = 0; what < 3; what++) {
+            DUE.is("balance(" + what + ")", later.balance(what), 0);
+        }
         for (int what = 0; what < 9; what++) {
             DUE.yes("sum " + what + " goes on", later.gone(what) > x.gone(what));
         }
@@ -159,6 +163,18 @@ public final class RefusedTest {
 
     private static void runs() {
         noneForEach("run(?)", HeapSteps::run, MIN, -1, 0, 1001, 20001, MAX);
+    }
+
+    /** It is not refused, but no minute runs: rain, fan and sums stay as they are. */
+    private static void tooWarmToRun() {
+        for (int minutes : new int[] {1, 1000}) {
+            Twin.refused(DUE, "run(" + minutes + ") above the limit", Twin::rich, x -> {
+                x.limit(0);
+                long ran = x.run(minutes);
+                x.limit(400000);
+                return ran;
+            }, 0);
+        }
     }
 
     private static void questions() {

@@ -209,14 +209,15 @@ public final class TermsEdgeTest {
         }
     }
 
+    /** Of a million grams, so that one millionth is seen. */
     private static long brokenAt(int warmth) {
         HeapSteps x = new HeapSteps(1);
-        x.rate(2, 5, 10000);
-        x.rate(2, 6, 20000);
+        x.rate(2, 5, 1);
+        x.rate(2, 6, 2);
         x.rate(2, 100, 0);
-        x.rate(2, 101, 30000);
-        x.part(0, 2, 100);
-        x.heat(0, warmth * 100);
+        x.rate(2, 101, 3);
+        x.part(0, 2, 1000000);
+        x.heat(0, warmth * 1000000);
         x.run(1);
         return x.gone(0);
     }
@@ -230,7 +231,7 @@ public final class TermsEdgeTest {
         DUE.is("one below the third row", brokenAt(99), 2);
         DUE.is("at the third row, of 0", brokenAt(100), 0);
         DUE.is("at the fourth row", brokenAt(101), 3);
-        DUE.is("far above the fourth row", brokenAt(1000000), 3);
+        DUE.is("far above the fourth row", brokenAt(1000), 3);
     }
 
     private static void noRows() {
@@ -238,12 +239,12 @@ public final class TermsEdgeTest {
         x.rate(0, 0, 100000);
         x.rate(2, 0, 100000);
         for (int part = 0; part < 3; part++) {
-            x.part(0, part, 1000);
+            x.part(0, part, 1000000);
         }
         x.heat(0, BILLION);
         x.run(1);
-        DUE.is("a part without rows", x.left(0, 1), 1000);
-        DUE.is("gas of the two others", x.gone(0), 200);
+        DUE.is("a part without rows", x.left(0, 1), 1000000);
+        DUE.is("gas of the two others", x.gone(0), 200000);
     }
 
     /** "(both 0 at first)". */
